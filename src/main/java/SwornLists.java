@@ -190,7 +190,6 @@ public final class SwornLists {
     trials.set(row, STRIKES, strikes);
     trials.set(row, LOT, lot);
     trials.set(row, SLIPS, slips);
-    court.unsettle(row);
     return row;
   }
 
@@ -515,10 +514,6 @@ public final class SwornLists {
         return FULL;
       }
       size++;
-      // an image taken up again may have left an old row here
-      for (int column = 0; column < width; column++) {
-        set(size - 1, column, 0);
-      }
       return size - 1;
     }
 
@@ -533,6 +528,7 @@ public final class SwornLists {
       }
     }
 
+    /** Copies the cells behind the last row too, which are zeros: a row that is grown stays clean. */
     void copy(Rows other) {
       size = Math.min(most, other.size);
       System.arraycopy(other.cells, 0, cells, 0, Math.min(cells.length, other.cells.length));
@@ -1263,7 +1259,7 @@ public final class SwornLists {
       for (int step = 0; step < MOST_STEPS && at >= 0 && at < many; step++) {
         waits[at]++;
         int sum = sumTo(at);
-        if (waits[at] > LONGEST || leastSum != NONE && sum >= leastSum) {
+        if (waits[at] > longestOf(at) || leastSum != NONE && sum >= leastSum) {
           at--;
         } else if (fits(book, at)) {
           if (at == many - 1) {
@@ -1279,18 +1275,26 @@ public final class SwornLists {
 
     private void gather(Book book, int set) {
       many = 0;
-      for (int t = 0; t < book.trials.size(); t++) {
-        if (hasBit(set, t) && many < MOST) {
+      for (int t = 0; t < book.trials.size() && many < MOST; t++) {
+        if (hasBit(set, t)) {
           trials[many] = t;
           foes[many] = 0;
-          for (int i = 0; i < many; i++) {
-            if (book.shareFamily(trials[i], t) || book.shareTrade(trials[i], t)) {
-              foes[many] |= 1 << i;
-            }
-          }
           many++;
         }
       }
+      for (int i = 0; i < many; i++) {
+        for (int j = 0; j < i; j++) {
+          if (book.shareFamily(trials[i], trials[j]) || book.shareTrade(trials[i], trials[j])) {
+            foes[i] |= 1 << j;
+            foes[j] |= 1 << i;
+          }
+        }
+      }
+    }
+
+    /** One that nothing can clash with has no cause to wait. */
+    private int longestOf(int at) {
+      return foes[at] == 0 ? 0 : LONGEST;
     }
 
     private int sumTo(int at) {

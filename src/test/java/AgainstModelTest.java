@@ -35,12 +35,25 @@ public final class AgainstModelTest {
   }
 
   int run(long seed) {
-    for (int call = 0; call < 512 && wrong == 0; call++) one();
+    int call = seed % 2 == 0 ? 0 : crowd();
+    for (; call < 512 && wrong == 0; call++) one();
     if (wrong != 0) {
       System.out.println("seed " + seed);
       last.forEach(System.out::println);
     }
     return wrong;
+  }
+
+  /** People, acts and trials enough that the rest of the run has something to hang on: how many calls. */
+  int crowd() {
+    int many = 10 + r(23), trials = 2 + r(9);
+    for (int i = 0; i < many; i++) tell(0);
+    for (int i = 0; i < trials; i++) trial();
+    for (int i = 0; i < 40; i++) tell(19);
+    for (int i = 0; i < 10; i++) tell(17);
+    int facts = r(42);
+    for (int i = 0; i < facts; i++) tell(4);
+    return many + trials + 50 + facts;
   }
 
   int r(int n) { return n <= 0 ? 0 : random.nextInt(n); }

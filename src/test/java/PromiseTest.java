@@ -436,16 +436,20 @@ public final class PromiseTest {
     due("box without kin known by then", x.box(0), 254);
     x.kin(3, 2, 0);
     due("box without kin of side 1", x.box(0), 246);
-    x.roll(0b11110110, 100, 10);
-    due("box, the roll", x.box(0), 0b11110110);
-    x.roll(0b01110110, 150, 11);
-    due("box, a roll not known yet", x.box(0), 0b11110110);
+    x.roll(0b11111100, 100, 10);
+    due("box, the roll", x.box(0), 0b11110100);
+    x.roll(0b01110100, 150, 11);
+    due("box, a roll not known yet", x.box(0), 0b11110100);
     law(x, "l<7", 0, 10);
-    due("box, who may", x.box(0), 0b01110110);
+    due("box, who may", x.box(0), 0b01110100);
     law(x, "l=6", 1, 10);
-    due("box, not excused", x.box(0), 0b00110110);
+    due("box, not excused", x.box(0), 0b00110100);
     law(x, "0", 0, 11);
-    due("box, an act of later", x.box(0), 0b00110110);
+    due("box, an act of later", x.box(0), 0b00110100);
+    x.strikeOut(1, 10);
+    due("box, an act struck out", x.box(0), 0b01110100);
+    x.strikeOut(0, 11);
+    due("box, an act struck out later", x.box(0), 0b01110100);
 
     SwornLists y = people(8);
     y.trial(0, 1, 1, NONE, NONE, 2, 0, 0, 2);
@@ -733,6 +737,12 @@ public final class PromiseTest {
     plainTrial(y, 0, 1, 1, 1);
     due("twelve of one seat", y.twelve(0, 0), 1);
     part(y, 1, 1);
+    SwornLists z = new SwornLists();
+    for (int i = 0; i < 4; i++) z.person(i, 0, 0, 0);
+    z.person(3, 0, 0, 0);
+    plainTrial(z, 0, 1, 2, 2);
+    due("twelve of the last parish", z.twelve(0, 0), 1);
+    part(z, 1, 10);
   }
 
   private static void part() {
@@ -933,6 +943,13 @@ public final class PromiseTest {
     plainTrial(y, 3, 1, 1, 2);
     due("a trial told anew: like", y.like(0, 0, 0, 1), 0);
     due("a trial told anew: away", y.away(0, 1, false), NO);
+    SwornLists z = people(3);
+    plainTrial(z, 9, 1, 1, 3);
+    z.image(0);
+    z.roll(4, 0, 0);
+    due("one on the roll", z.box(0), 4);
+    z.from(0);
+    due("all are in the box again", z.box(0), 7);
   }
 
   private static void count() {
@@ -981,6 +998,9 @@ public final class PromiseTest {
         1, '1', 2, 'z', 0, 0, 0, 9, 8, 1, 3);
     due("digest", x.digest(), h);
     due("digest again", x.digest(), h);
+    SwornLists y = people(1);
+    y.trial(0, 1, 1, NONE, NONE, 3, 0, 7, 1);
+    due("digest with a passer", y.digest(), folded(367, 1, 0, 0, 0, 1, 1, 0, 0, 0, 50, 0, 1, 1, 0, 0, 7, 0, 0, 0, 0, 5, 20, 0, 1));
   }
 
   private static long folded(long h, long... vs) {
