@@ -1,60 +1,11 @@
 /** Each promise of the document by hand: ordinary inputs, the edges it names, wrong inputs. */
-public final class PromiseTest {
-  private static final int NONE = -1, BAD = -2, NO = -3, FULL = -4, MAX = Integer.MAX_VALUE, MIN = Integer.MIN_VALUE;
-  private static int wrong = 0;
-
-  private static void due(String what, long got, long want) {
-    if (got != want) {
-      wrong++;
-      System.out.println(what + ": answered " + got + ", due is " + want);
-    }
-  }
-
+public final class PromiseTest extends Helps {
   public static void main(String[] args) {
     newObject(); person(); kin(); roll(); rollOf(); write(); erase(); fault(); tells(); act();
     strikeOut(); force(); may(); trial(); away(); like(); box(); drawn(); slip(); jury(); about();
     bad(); sums(); owed(); chance(); twelve(); part(); beside(); clash(); turn(); image(); from();
     count(); digest(); refusedChangesNothing();
-    System.out.println(wrong == 0 ? "PromiseTest: all as due" : "PromiseTest: " + wrong + " wrong");
-    if (wrong != 0) System.exit(1);
-  }
-
-  // ---- helps
-
-  /** A table with so many people, alike but for LAND, which is their number. */
-  private static SwornLists people(int many) {
-    SwornLists x = new SwornLists();
-    for (int i = 0; i < many; i++) x.person(i % 4, i % 4, i, 50);
-    return x;
-  }
-
-  private static void text(SwornLists x, int text, String signs) {
-    x.erase(text);
-    for (int i = 0; i < signs.length(); i++) x.write(text, signs.charAt(i));
-  }
-
-  private static int law(SwornLists x, String signs, int sort, int from) {
-    text(x, 3, signs);
-    return x.act(3, sort, from);
-  }
-
-  private static int plainTrial(SwornLists x, int day, int days, int seats, int slips) {
-    return x.trial(day, days, seats, NONE, NONE, NONE, 0, 1, slips);
-  }
-
-  private static int faultOf(String signs) {
-    SwornLists x = new SwornLists();
-    text(x, 0, signs);
-    return x.fault(0);
-  }
-
-  /** Of person 1 of a table: PARISH 1, TRADE 1, LAND 7, BORN 50, on a DAY of YEAR 100. */
-  private static long told(String signs) {
-    SwornLists x = new SwornLists();
-    x.person(3, 3, 9, 9);
-    x.person(1, 2, 7, 50);
-    text(x, 0, signs);
-    return x.tells(0, 1, 99);
+    end("PromiseTest");
   }
 
   // ---- promises 1 to 13
@@ -379,10 +330,6 @@ public final class PromiseTest {
     due("trial count", x.count(4), 10);
   }
 
-  private static int tried(SwornLists x, int[] a) {
-    return x.trial(a[0], a[1], a[2], a[3], a[4], a[5], a[6], a[7], a[8]);
-  }
-
   private static void away() {
     SwornLists x = people(3);
     due("away no trial", x.away(0, 0, true), BAD);
@@ -702,11 +649,6 @@ public final class PromiseTest {
     part(x, 1, 15);
   }
 
-  private static void part(SwornLists x, long above, long below) {
-    due("above", x.part(0), above);
-    due("below", x.part(1), below);
-  }
-
   private static void twelve() {
     SwornLists x = new SwornLists();
     for (int i = 0; i < 6; i++) x.person(i < 3 ? 0 : i < 5 ? 1 : 2, 0, i, 0);
@@ -1001,11 +943,6 @@ public final class PromiseTest {
     SwornLists y = people(1);
     y.trial(0, 1, 1, NONE, NONE, 3, 0, 7, 1);
     due("digest with a passer", y.digest(), folded(367, 1, 0, 0, 0, 1, 1, 0, 0, 0, 50, 0, 1, 1, 0, 0, 7, 0, 0, 0, 0, 5, 20, 0, 1));
-  }
-
-  private static long folded(long h, long... vs) {
-    for (long v : vs) h = 31 * h + v;
-    return h;
   }
 
   /** Each refusal in turn, with the digest taken ahead and behind. */
