@@ -5,12 +5,12 @@ public final class EdgeTest extends Helps {
     actsKeepTheTextOfThen(); actsAreFromADayOn(); actsAreStruckOutOnce(); actInForce(); withoutAnyAct();
     truthOfAnAct(); fiftyCharacters(); digitsOneToSix(); whatOfOnePerson(); satAheadOfADay(); yearsSinceThat();
     truthsAreOneAndZero(); longsWrap(); cutTowardZero(); howFastSignsBind(); blanksAnywhere(); charactersThatMayStand();
-    faultOfACharacter(); faultOfASeventhDigit(); faultOfANinthOpen(); oneCompareOnly();
+    faultOfACharacter(); faultOfASeventhDigit(); faultOfANinthOpen(); oneCompareOnly(); eachTextByItself();
     trialsNoEarlier(); hangsOnWhatIsKnown(); boxByEachRule(); boxAndTrialsOfLesserNumbers(); drawOfSlips(); drawWraps();
     awayIsToldAndDrawn(); likesAreApart(); struckInTurn(); sidesAreThrough(); struckOfLikeOnes(); juryBySeats(); passersByEachRule();
     noJuryNobodySits(); badAsKnown(); payAndFine(); owedByADay();
     farFromChance(); inLowestTerms(); twelveOfABox(); twelveOfAll(); besideOneTrial(); clashWaits(); clashRows(); clashFamiliesAndTrades();
-    turnByRows(); imagesKeepAllBut(); lotThatLooksBad(); digestOfAll(); fiveHundredAndTwelveCalls();
+    turnByRows(); imagesKeepAllBut(); imagesKeepTextsOfActs(); lotThatLooksBad(); digestOfAll(); fiveHundredAndTwelveCalls();
     end("EdgeTest");
   }
 
@@ -447,6 +447,23 @@ public final class EdgeTest extends Helps {
     due("nine, one shut at once", faultOf("(a)+" + eight + "a" + shut), NONE);
   }
 
+  /** What was found out of one TEXT is nothing to the next. */
+  private static void eachTextByItself() {
+    for (String ill : new String[] {"!", "-", "1+", "1-(", "((((((((", "(((((((((", "a<", "(a<l", "a<l<", "1234567", "2*(3+", "a<!"}) {
+      SwornLists x = people(1);
+      text(x, 0, ill);
+      text(x, 1, "((((((((5<6))))))))*4");
+      text(x, 2, "7");
+      x.fault(0);
+      due("a plain one behind " + ill, x.tells(2, 0, 0), 7);
+      x.fault(0);
+      due("eight ( behind " + ill, x.tells(1, 0, 0), 4);
+      x.fault(0);
+      due("an ACT behind " + ill, x.act(2, 0, 0), 0);
+      due("it tells a truth", x.may(0, 0, 0), 1);
+    }
+  }
+
   /** HELD: SUM, or SUM < SUM, SUM > SUM, SUM = SUM: one compare in each. */
   private static void oneCompareOnly() {
     for (String one : new String[] {"<", ">", "="}) {
@@ -463,6 +480,10 @@ public final class EdgeTest extends Helps {
     due("with sums between", faultOf("a<l+t*p-1>2"), 91);
     due("a ( ahead, shut, has its own", faultOf("(a<l)+(a<l)<(a<l)"), NONE);
     due("and no more", faultOf("(a<l)+(a<l)<(a<l)<1"), 171);
+    due("a & in ( ) ahead of one", faultOf("(a&l)<t"), NONE);
+    due("a | in ( ) ahead of one", faultOf("(a|l)=t"), NONE);
+    due("a & in ( ) behind one frees no other", faultOf("a<(l&t)<p"), 71);
+    due("a & in ( ( ) ) ahead of one in ( )", faultOf("((a&l)<t)<p"), NONE);
   }
 
   // ---- 2 TRIALS
@@ -571,6 +592,12 @@ public final class EdgeTest extends Helps {
     x.away(0, x.drawn(0, 0), true);
     due("the first is another", x.jury(0) != first ? 1 : 0, 1);
     due("what hangs on it too", x.box(2), 7 & ~x.jury(0));
+    SwornLists both = people(6);
+    for (int i = 0; i < 3; i++) plainTrial(both, 10 + i, 3, 2, 6);
+    plainTrial(both, 13, 1, 2, 6);
+    due("of two that go on", both.box(2), 63 & ~both.jury(0) & ~both.jury(1));
+    due("two are left", Integer.bitCount(both.box(2)), 2);
+    due("the first is over", both.box(3), both.jury(0));
     SwornLists y = people(2);
     plainTrial(y, 9999, 9, 1, 2);
     plainTrial(y, 9999, 9, 1, 2);
@@ -706,6 +733,9 @@ public final class EdgeTest extends Helps {
     y.like(0, 0, q[1], 0);
     due("then side 1", y.slip(0, q[1]), 4);
     due("and side 0 none", y.about(0, 1), 0);
+    y.like(0, 1, q[1], 0);
+    due("then neither", y.slip(0, q[1]), 6);
+    due("side 1 none either", y.about(0, 2), 0);
     SwornLists z = people(8);
     z.trial(0, 1, 8, NONE, NONE, NONE, 4, 5, 8);
     for (int p = 0; p < 8; p++) { z.like(0, 0, p, -1); z.like(0, 1, p, -1); }
@@ -1220,6 +1250,11 @@ public final class EdgeTest extends Helps {
     y.roll(bits(7), 0, 0);
     due("on THE ROLL", y.turn(3, 0), 7);
     due("nobody of a PARISH on it", y.turn(2, 0), NONE);
+    SwornLists z = new SwornLists();
+    for (int i = 0; i < 2; i++) z.person(0, i, 0, 0);
+    for (int i = 0; i < 2; i++) z.trial(i, 1, 1, NONE, NONE, 1, 0, 0, 1);
+    z.trial(5000, 1, 1, NONE, NONE, 0, 0, 0, 1);
+    due("the least s, though y of another is greater", z.turn(0, 5001), 0);
   }
 
   /** IMAGES 0, 1 keep all but them and THE FRACTION; the table goes on from one. */
@@ -1269,6 +1304,26 @@ public final class EdgeTest extends Helps {
     due("PAY as at first", y.owed(y.drawn(0, 0), 0), 5);
     due("an ACT takes number 0 again", law(y, "0", 0, 5), 0);
     due("which is not struck out", y.force(0, 9), 0);
+  }
+
+  /** Of an ACT its TEXT too. */
+  private static void imagesKeepTextsOfActs() {
+    SwornLists x = people(2);
+    x.image(0);
+    law(x, "l=0", 0, 0);
+    x.image(1);
+    x.from(0);
+    law(x, "l=1", 0, 0);
+    due("another ACT 0", x.may(0, 0, 0) * 10 + x.may(1, 0, 0), 1);
+    x.from(1);
+    due("that of the image", x.may(0, 0, 0) * 10 + x.may(1, 0, 0), 10);
+    x.from(0);
+    text(x, 3, "l");
+    x.image(0);
+    text(x, 3, "l+1");
+    x.from(0);
+    due("a TEXT as it was", x.tells(3, 1, 0), 1);
+    due("so long", x.erase(3), 1);
   }
 
   /** BAD: -2000000000 (also a LOT may be that). */
