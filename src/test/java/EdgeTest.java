@@ -826,6 +826,17 @@ public final class EdgeTest extends Helps {
     due("none over", z.about(0, 0), 0);
     z.away(0, 3, true);
     due("seven of eight", z.jury(0), 0);
+    SwornLists w = people(30);
+    plainTrial(w, 0, 1, 8, 24);
+    int[] order = order(w, 0, 24);
+    int last = 0;
+    for (int i = 0; i < 24; i++) {
+      if (i < 17) w.away(0, order[i], true);
+      else last |= 1 << order[i];
+    }
+    due("seven of 24 slips are left", w.jury(0), 0);
+    w.away(0, order[0], false);
+    due("eight of 24 slips, to the last", w.jury(0), last | 1 << order[0]);
   }
 
   /** PASSERS: PEOPLE by numbers who MAY serve that DAY, are not in THE BOX, KIN of neither side, sit in no such TRIAL. */
